@@ -23,9 +23,10 @@ final class Model {
 
     static Model chance(Random r, int mostAlleys) {
         Model m = new Model();
-        if (r.nextInt(4) == 0) {
-            m.wide = 2 + r.nextInt(3);
-            m.high = 2 + r.nextInt(3);
+        boolean isFull = r.nextInt(15) == 0;
+        if (isFull || r.nextInt(4) == 0) {
+            m.wide = isFull ? 4 : 2 + r.nextInt(3);
+            m.high = isFull ? 4 : 2 + r.nextInt(3);
             m.corners = m.wide * m.high;
             int min = 1 + r.nextInt(9);
             for (int y = 0; y < m.high; y++) {
@@ -41,7 +42,7 @@ final class Model {
         } else {
             m.corners = r.nextInt(6) == 0 ? 2 + r.nextInt(15) : 2 + r.nextInt(5);
         }
-        int more = m.wide > 0 ? r.nextInt(4) : r.nextInt(mostAlleys + 1);
+        int more = isFull ? 4 : m.wide > 0 ? r.nextInt(4) : r.nextInt(mostAlleys + 1);
         for (int i = 0; i < more && m.alleys.size() < 28; i++) {
             int a = r.nextInt(m.corners);
             int b = (a + 1 + r.nextInt(m.corners - 1)) % m.corners;
@@ -53,7 +54,7 @@ final class Model {
             m.alleys.add(new int[] {a, b, 1 + r.nextInt(r.nextInt(8) == 0 ? 60 : 6), price,
                     r.nextInt(8) == 0 ? 1 : 0, r.nextInt(4) == 0 ? 1 : 0});
         }
-        int trips = r.nextInt(11);
+        int trips = isFull ? 10 : r.nextInt(11);
         for (int i = 0; i < trips; i++) {
             int a = r.nextInt(m.corners);
             m.journeys.add(new int[] {a, (a + 1 + r.nextInt(m.corners - 1)) % m.corners, 1 + r.nextInt(r.nextInt(3) == 0 ? 99 : 4)});

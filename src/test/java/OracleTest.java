@@ -3,16 +3,27 @@ import java.util.Random;
 
 /** Towns and calls by chance, each answer held against the plain Model. */
 public final class OracleTest {
-    private static final int TOWNS = 700;
+    private static final int OBJECTS = 250;
+    private static final int TOWNS = 4;
 
-    private OneWays x;
-    private Model m;
-    private Random r;
-    private String name;
+    private final OneWays x = new OneWays();
+    private final Random r;
+    private Model m = new Model();
+    private String name = "no town: ";
+    private final Model[] keptTowns = new Model[3];
+    private final int[][][] keptWays = new int[3][][];
+
+    private OracleTest(int seed) {
+        r = new Random(seed);
+    }
 
     public static void main(String[] args) {
-        for (int seed = 1; seed <= TOWNS; seed++) {
-            new OracleTest().town(seed);
+        for (int seed = 1; seed <= OBJECTS; seed++) {
+            OracleTest test = new OracleTest(seed);
+            for (int n = 0; n < TOWNS; n++) {
+                test.town("object " + seed, (seed + n) % 25 == 0 ? 28 : 12);
+                test.image();
+            }
         }
         TestKit.finish();
     }
@@ -21,15 +32,14 @@ public final class OracleTest {
         TestKit.due(name + call, got, want);
     }
 
-    private void town(int seed) {
-        r = new Random(seed);
-        m = Model.chance(r, seed % 25 == 0 ? 28 : 12);
-        x = new OneWays();
-        String text = m.text();
-        name = "town " + seed + " (" + text.replace('\n', ' ') + "): ";
+    private void town(String object, int mostAlleys) {
+        Model told = Model.chance(r, mostAlleys);
+        String text = told.text();
         if (text.length() > 800) {
             return;
         }
+        m = told;
+        name = object + " (" + text.replace('\n', ' ') + "): ";
         TestKit.feed(x, text);
         due("text()", x.text(), m.lines);
         facts();
@@ -45,7 +55,34 @@ public final class OracleTest {
         }
     }
 
+    private static int[][] copy(int[][] ways) {
+        return new int[][] {ways[0].clone(), ways[1].clone()};
+    }
+
+    /** Keeps an IMAGE, goes back to one, and looks at all that it has. */
+    private void image() {
+        int k = r.nextInt(3);
+        due("keep(" + k + ")", x.keep(k), 0);
+        keptTowns[k] = m;
+        keptWays[k] = copy(m.ways);
+        int from = r.nextInt(3);
+        due("back(" + from + ")", x.back(from), keptTowns[from] == null ? -6 : 0);
+        if (keptTowns[from] != null) {
+            m = keptTowns[from];
+            m.ways = copy(keptWays[from]);
+        }
+        name = "back(" + from + ") behind " + name;
+        facts();
+        for (int g = 0; g < 2; g++) {
+            sameWays(g);
+            looks(g);
+            ending(g);
+        }
+        over();
+    }
+
     private void facts() {
+        due("count(0)", x.count(0), m.lines);
         due("count(1)", x.count(1), m.corners);
         due("count(2)", x.count(2), m.alleys.size());
         due("count(3)", x.count(3), m.journeys.size());

@@ -162,6 +162,8 @@ public final class PromisesTest {
         dueFault("corners 4 \n", 1, 11);
         dueFault("corners;", 1, 7);
         dueFault("corner 4;", 1, 0);
+        dueFault("cornersz 4;", 1, 0);
+        dueFault("borners 4;", 1, 0);
         dueFault("corners 3; corners 3;", 1, 11);
         dueFault("house 0; grid 2 by 2 min 1;", 1, 9);
         dueFault(";", 1, 0);
@@ -707,6 +709,7 @@ public final class PromisesTest {
         due("no JOURNEY", x.gone(0, 2, 0), -2);
         due("no JOURNEY", x.gone(0, -1, 0), -2);
         due("gone(2, ..)", x.gone(2, 0, 0), -2);
+        due("busiest", x.busiest(0), 4);
         due("load", x.load(0, 0), 0);
         due("load", x.load(0, 1), 2);
         due("load", x.load(0, 4), 3);
@@ -966,6 +969,8 @@ public final class PromisesTest {
         due("beyond all", x.paste(0, most, 2, 0, most), -7);
         due("beyond all", x.paste(0, 1, 2, most, most), -7);
         due("none at the end", x.paste(0, 5, 2, 6, 0), 0);
+        due("none beyond the end", x.paste(0, 6, 2, 0, 0), -7);
+        due("all", x.paste(0, 0, 0, 0, 5), 0);
         due("paste", x.paste(0, 0, 0, 1, 4), 0);
         x.gives(0, 0);
         dueWays("as they were", x, 0, 0, 0, 1, 2, 0);
