@@ -447,6 +447,25 @@ public final class PromisesTest {
         x.give(0, 2, 1);
         due("the first that betters", x.better(0), 1);
         dueWays("the first that betters", x, 0, 1, 1, 2);
+        fiftyTurnings();
+    }
+
+    /** A town that was searched for: from these ways on, 54 TURNINGS better it. */
+    private static void fiftyTurnings() {
+        OneWays x = TestKit.town("corners 9;alley 1 3min18;alley 7 3min16;alley 4 1min51;alley 3 2min50;alley 4 7min10;alley 8 0min6;"
+                + "alley 4 7min2;alley 1 3min60;alley 7 1min31;alley 1 8min47;alley 0 8min10;alley 6 3min53;alley 5 6min53;"
+                + "alley 8 1min49;alley 4 6min15;alley 8 3min37;alley 3 6min26;alley 4 5min27;alley 6 7min12;alley 1 0min25;"
+                + "alley 1 2min24;alley 6 3min17;alley 0 4min38;alley 0 1min48;alley 4 1min40;alley 2 8min13;alley 8 2min16;"
+                + "alley 6 1min9;journey7 6carts87;journey3 6carts10;journey6 0carts16;journey4 1carts58;journey5 8carts99;"
+                + "journey0 3carts3;journey8 7carts57;journey3 0carts13;journey2 6carts76;journey3 2carts81;");
+        int[] ways = {2, 1, 1, 2, 2, 2, 1, 1, 1, 2, 2, 1, 1, 2, 2, 1, 2, 1, 1, 2, 2, 1, 1, 2, 1, 2, 1, 1};
+        for (int a = 0; a < ways.length; a++) {
+            x.give(0, a, ways[a]);
+        }
+        due("fifty at most", x.better(0), 50);
+        due("ended", x.ended(0), 0);
+        due("the rest", x.better(0), 4);
+        due("ended", x.ended(0), 1);
     }
 
     /** Promises 23, 24. */
