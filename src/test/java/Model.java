@@ -64,9 +64,9 @@ final class Model {
             free.add(a);
         }
         Collections.shuffle(free, r);
-        for (int s = r.nextInt(4); s > 0 && free.size() >= 2; s--) {
+        for (int s = isFull ? 6 : r.nextInt(4); s > 0 && free.size() >= 2; s--) {
             List<Integer> street = new ArrayList<>();
-            for (int n = 2 + r.nextInt(5); n > 0 && !free.isEmpty(); n--) {
+            for (int n = 2 + r.nextInt(isFull ? 3 : 5); n > 0 && !free.isEmpty(); n--) {
                 street.add(free.remove(0));
             }
             if (street.size() >= 2) {

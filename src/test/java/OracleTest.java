@@ -97,6 +97,7 @@ public final class OracleTest {
             }
         }
         due("count(4)", x.count(4), told);
+        due("street behind the last", x.street(m.streets.size(), 0), -1);
         for (int s = 0; s < m.streets.size(); s++) {
             for (int i = 0; i < 7; i++) {
                 List<Integer> street = m.streets.get(s);
