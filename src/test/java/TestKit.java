@@ -2,6 +2,11 @@ import java.nio.charset.StandardCharsets;
 
 /** What all tests share: counting wrong answers, and putting a text on the TAPE. */
 final class TestKit {
+    /** A call with all but one of its arguments settled. */
+    interface Ask {
+        long by(int value);
+    }
+
     private static final int SHOWN_AT_MOST = 40;
     private static int wrong = 0;
     private static int asked = 0;
@@ -29,11 +34,37 @@ final class TestKit {
         }
     }
 
+    /**
+     * The last values that are allowed and the first that are not, on both sides; numbers that an
+     * int or a shift would take for allowed ones when it wraps around; and the ends of int.
+     */
+    static void edges(String call, int low, long atLow, int high, long atHigh, long refused, Ask ask) {
+        due(call + ", the least: " + low, ask.by(low), atLow);
+        due(call + ", the greatest: " + high, ask.by(high), atHigh);
+        refusedAround(call, low, high, refused, ask);
+    }
+
+    static void refusedAround(String call, int low, int high, long refused, Ask ask) {
+        int[] others = {low - 1, high + 1, low - 2, high + 2, low + 32, low - 32, low + 64, low + 256, low - 256, low + 65536,
+                low - 65536, low + (1 << 28), low + (1 << 30), low + (1 << 31), high + (1 << 31), -high, ~low, ~high,
+                Integer.MIN_VALUE, Integer.MIN_VALUE + 1, Integer.MAX_VALUE, Integer.MAX_VALUE - 1};
+        for (int value : others) {
+            if (value < low || value > high) {
+                due(call + ", not " + value, ask.by(value), refused);
+            }
+        }
+    }
+
     static void finish() {
         System.out.println(wrong == 0 ? asked + " answers are as due" : wrong + " of " + asked + " answers are not as due");
         if (wrong != 0) {
             System.exit(1);
         }
+    }
+
+    /** How many bytes the TAPE has behind a text() with a FAULT: "all stays" is taken to mean the TAPE, too (NOTES.md). */
+    static int tapeBehindFault(int size) {
+        return size;
     }
 
     /** Puts a text on an empty TAPE. */
