@@ -18,6 +18,12 @@ public final class LanguageTest {
     private static final String[] BARRED = {"throw", "throws", "try", "catch", "finally", "synchronized", "assert", "while (true)",
             "for (;;)", "->", "::", "Object", "System.out", "nanoTime", "currentTimeMillis", "Random", "Thread", "Exact(", "@",
             "double", "float", "protected"};
+    /** Rule 4, as far as the class could need it; Math, Integer and Long but for what ends in Exact (above). */
+    private static final Pattern LIBRARY = Pattern.compile("java\\.lang\\.Object\\.<init>\\(\\)V"
+            + "|java\\.lang\\.String\\.(length|charAt|isEmpty|equals|substring|toCharArray)\\(.*"
+            + "|java\\.lang\\.(Math|Integer|Long)\\.\\w+\\(.*|java\\.lang\\.System\\.arraycopy\\(.*"
+            + "|java\\.util\\.Arrays\\.(copyOf|copyOfRange|fill)\\(.*");
+    private static final int MOST_DEEP = 8;
     private static final int MOST_LINES = 60;
     private static final int MOST_FIELDS = 20;
     private static final int MOST_CLASSES = 12;
@@ -25,6 +31,7 @@ public final class LanguageTest {
     public static void main(String[] args) throws IOException {
         face();
         nested();
+        calls(ClassCalls.of(OneWays.class));
         Path root = Path.of(args.length > 0 ? args[0] : ".");
         source(Files.readString(root.resolve("src/main/java/OneWays.java")));
         TestKit.finish();
@@ -79,6 +86,18 @@ public final class LanguageTest {
             due(f.getName() + " is final if static", !isStatic || Modifier.isFinal(f.getModifiers()));
         }
         due(c.getName() + " has few fields", own <= MOST_FIELDS);
+    }
+
+    /** "calls that are no recursion go at most eight deep"; and "The library: only what stands here." */
+    private static void calls(ClassCalls all) {
+        due("all methods of the face are seen", all.calls.size() > FACE.split(" ").length);
+        for (String method : all.calls.keySet()) {
+            int depth = all.depth(method);
+            due(method + " goes " + depth + " deep", depth >= 1 && depth <= MOST_DEEP);
+            for (String called : all.calls.get(method)) {
+                due(method + " calls " + called, all.calls.containsKey(called) || LIBRARY.matcher(called).matches());
+            }
+        }
     }
 
     private static void source(String text) {
